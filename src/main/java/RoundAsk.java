@@ -182,7 +182,7 @@ public final class RoundAsk {
     }
 
     public long pays(int g, boolean alike, int which) {
-        if (!isGuest(g) || !isHalf(which)) {
+        if (!isGuest(g) || !isOneOfTwo(which)) {
             return LOST;
         }
         tryEvening();
@@ -244,7 +244,7 @@ public final class RoundAsk {
     // ---- 4 ever
 
     public int ever(int what) {
-        if (!isHalf(what)) {
+        if (!isOneOfTwo(what)) {
             return OUTSIDE;
         }
         if (!isTable()) {
@@ -255,7 +255,7 @@ public final class RoundAsk {
     }
 
     public long mean(int g, int which) {
-        if (!isGuest(g) || !isHalf(which)) {
+        if (!isGuest(g) || !isOneOfTwo(which)) {
             return LOST;
         }
         walkOn();
@@ -280,7 +280,7 @@ public final class RoundAsk {
         if (!isGuest(g)) {
             return UNKNOWN;
         }
-        if (!isHalf(what)) {
+        if (!isOneOfTwo(what)) {
             return OUTSIDE;
         }
         trial.become(now);
@@ -307,7 +307,7 @@ public final class RoundAsk {
         if (!isGuest(g)) {
             return UNKNOWN;
         }
-        if (!isHalf(what)) {
+        if (!isOneOfTwo(what)) {
             return OUTSIDE;
         }
         tryEvening();
@@ -340,7 +340,7 @@ public final class RoundAsk {
     }
 
     public int law(int what) {
-        if (!isHalf(what)) {
+        if (!isOneOfTwo(what)) {
             return OUTSIDE;
         }
         if (!isTable()) {
@@ -503,7 +503,7 @@ public final class RoundAsk {
         return sort >= BYTES && sort <= INTS;
     }
 
-    private static boolean isHalf(int which) {
+    private static boolean isOneOfTwo(int which) {
         return which == 0 || which == 1;
     }
 
