@@ -269,8 +269,13 @@ public final class RoundAsk {
         walkOn();
         int set = 0;
         for (int g = 0; g < told.guests; g++) {
-            if (wouldLeave(g)) {
-                set |= 1 << g;
+            for (int kind = KIND; kind <= PAYER; kind++) {
+                if (kind != told.kind[g]) {
+                    trial.become(now);
+                    trial.kind[g] = kind;
+                    otherwise.walk(trial);
+                    set |= isGladderOtherwise(g) ? 1 << g : 0;
+                }
             }
         }
         return set;
@@ -549,17 +554,8 @@ public final class RoundAsk {
         ever.walk(trial);
     }
 
-    private boolean wouldLeave(int g) {
-        boolean leaves = false;
-        for (int kind = KIND; kind <= PAYER && !leaves; kind++) {
-            if (kind != told.kind[g]) {
-                trial.become(now);
-                trial.kind[g] = kind;
-                otherwise.walk(trial);
-                leaves = otherwise.glad[g] * (long) ever.ring > ever.glad[g] * (long) otherwise.ring;
-            }
-        }
-        return leaves;
+    private boolean isGladderOtherwise(int g) {
+        return otherwise.glad[g] * (long) ever.ring > ever.glad[g] * (long) otherwise.ring;
     }
 
     /** The first course of an evening in which the twin gives a guest what is worth less to him. */
@@ -855,7 +851,7 @@ public final class RoundAsk {
         boolean isAnyFor(int g) {
             boolean any = false;
             for (int d = 0; d < told.dishes; d++) {
-                any |= isFor(g, d);
+                any = any || isFor(g, d);
             }
             return any;
         }
