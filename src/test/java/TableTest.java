@@ -7,6 +7,7 @@ public final class TableTest {
         texts();
         firstFaults();
         textOfCells();
+        textCutShort();
         refusals();
         allAnew();
         dishes();
@@ -49,6 +50,7 @@ public final class TableTest {
         text(-102, "d2");
         text(-102, "d20");
         text(-102, "d2x");
+        text(-102, "d2:");
         text(-103, "d21");
         text(-103, "d21:");
         text(-103, "d21/");
@@ -63,14 +65,17 @@ public final class TableTest {
         text(-107, HEAD + ";5");
         text(-108, HEAD + ";k");
         text(-108, HEAD + ";kx");
+        text(-108, HEAD + ";k:");
         text(-109, HEAD + ";k0");
         text(-109, HEAD + ";k0;");
+        text(-109, HEAD + ";k0:");
         text(-110, HEAD + ";k01");
         text(-110, HEAD + ";k01k");
         text(-110, HEAD + ";k0x");
         text(-110, HEAD + ";k0xx");
         text(-109, HEAD + ";p4");
         text(-109, HEAD + ";p4x");
+        text(-109, HEAD + ";p4:");
         text(-110, HEAD + ";p45");
         text(-111, HEAD + ";p45xx;k011");
         text(-111, HEAD + ";k012");
@@ -104,6 +109,30 @@ public final class TableTest {
             due.is("a code cut to its sort", sort == 2 ? -100 : 2, x.table(sort, sort, 3, text.length()));
             x.put(sort, 3, -156);
             due.is("a code below 0", sort == 0 ? 2 : -100, x.table(sort, sort, 3, text.length()));
+        }
+    }
+
+    /** The sheet goes on with codes that would fit, or ends where the text does. */
+    private static void textCutShort() {
+        String text = Laid.THREE + ";k000;k000;k000;k000";
+        for (int i = 0; i <= 100 - text.length(); i += 100 - text.length()) {
+            RoundAsk x = new RoundAsk();
+            x.sheet(0, 0, 100);
+            for (int k = 0; k < text.length(); k++) {
+                x.put(0, i + k, text.charAt(k));
+            }
+            for (int n = 0; n <= text.length(); n++) {
+                int guests = n == 16 ? 2 : n >= 22 && (n - 22) % 5 == 0 ? 3 + (n - 22) / 5 : 0;
+                due.is("the first " + n + " codes", guests > 0 ? guests : -100 - n, x.table(0, 0, i, n));
+            }
+        }
+        RoundAsk x = new RoundAsk();
+        x.sheet(0, 0, 100);
+        for (int k = 0; k < 20; k++) {
+            x.put(0, 80 + k, text.charAt(k));
+        }
+        for (int n = 0; n <= 20; n++) {
+            due.is("the last " + n + " cells", n == 20 ? -120 : -100, x.table(0, 0, 100 - n, n));
         }
     }
 

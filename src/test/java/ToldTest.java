@@ -40,6 +40,10 @@ public final class ToldTest {
         due.is("judge of cells from 1 on: the place in the row told", 0, x.judge(2, 2, 1, 3));
         Laid.row(x, 2, 2, 5, 1, 0, -9);
         due.is("judge of cells from 1 on: the last one", 2, x.judge(2, 2, 1, 3));
+        RoundAsk six = Laid.at("d6111111111111;k0xxxxx0;c0xxxxx0");
+        judged(six, 0, -9, 5);
+        judged(six, -9, 5, -9);
+        judged(six, 1, 5, 5);
         due.is("nobody remembers it", -8, x.ofGuest(0, 4));
         due.is("nothing was taken", 218, x.dine());
     }
