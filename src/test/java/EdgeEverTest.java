@@ -10,6 +10,7 @@ public final class EdgeEverTest {
     public static void main(String[] args) {
         tailAndRing();
         tailFromNow();
+        nothingIsRemembered();
         longTails();
         longRings();
         everRefused();
@@ -29,6 +30,7 @@ public final class EdgeEverTest {
         fades();
         fadesNever();
         fadesByDishes();
+        fadesByNothing();
         back();
         backNever();
         backByWorth();
@@ -98,6 +100,20 @@ public final class EdgeEverTest {
         x.courses(2);
         // Each evening of two courses ends with dish 1 for both, though they do not begin alike.
         due.is("ring of two courses", 1, x.ever(1));
+    }
+
+    // To remember NOTHING is not to remember nothing: "(he remembers it; NOTHING, too)"
+    private static void nothingIsRemembered() {
+        for (int n = 2; n <= 7; n++) {
+            // Both dishes are gone after the first course: all end with NOTHING.
+            RoundAsk x = Laid.at("d2" + n + "0" + n + "0" + ";k01x".repeat(n));
+            x.courses(2);
+            due.is("tail ahead of an evening", 1, x.ever(0));
+            due.is("ring", 1, x.ever(1));
+            x.dine();
+            due.is("all remember NOTHING", -9, x.ofGuest(0, 4));
+            due.is("tail after an evening", 0, x.ever(0));
+        }
     }
 
     // TAIL: till the last one who remembers what does not come again has forgotten it
@@ -222,6 +238,17 @@ public final class EdgeEverTest {
         due.is("of KIN 0 it is the same", 0, Laid.at("d29591;c091;c091").leaves());
         due.is("of KIN 1 it is more", 1, Laid.at("d29591;c191;c091").leaves());
         due.is("never glad", 0, Laid.at("d29591;c900;p9900").leaves());
+        // By 1, the least by which it can be more: KIN 1, and what is worth 1 instead of 0.
+        due.is("more by one", 1, Laid.at("d29591;c100;k010").leaves());
+        due.is("less by one", 0, Laid.at("d29591;k100;k010").leaves());
+        // A PAYER who has his way every other evening, with 95 in the one and 90, 95 or 100 in the other one; as a
+        // KIND one he would have 95 in each.
+        due.is("92 and a half, or 95", 1, Laid.at("d21191;p5665;k096").leaves());
+        due.is("95 in a ring of two, or of one", 0, Laid.at("d21191;p5665;k097").leaves());
+        due.is("97 and a half, or 95", 0, Laid.at("d21191;p5665;k098").leaves());
+        due.is("the ring of two", 2, Laid.at("d21191;p5665;k097").ever(1));
+        due.is("95 in it", 95, Laid.at("d21191;p5665;k097").mean(0, 0));
+        due.is("95 in it, by one", 1, Laid.at("d21191;p5665;k097").mean(0, 1));
         // By MEAN, not by all the RING: each would be glad of 90 an evening instead of less in more of them.
         for (int n = 3; n <= 7; n++) {
             due.is("all would end it", (1 << n) - 1, wave(n, NOBODY).leaves());
@@ -370,6 +397,29 @@ public final class EdgeEverTest {
         due.is("with it he gets dish 0, worth 0", 2, x.spite(0, 0));
     }
 
+    // ".. is the same": NOTHING, and each DISH, for him who gets it by it instead of NOTHING
+    private static void fadesByNothing() {
+        for (int a = 0; a < 6; a++) {
+            // Of dish a there are two, in the first course; 1 may have it alone. In spite 1 asks the other one for 0,
+            // and in the second course 1 gets what is left, and 0 what he would get anyhow.
+            int b = (a + 1) % 6;
+            StringBuilder text = new StringBuilder("d6");
+            StringBuilder his = new StringBuilder("xxxxxx");
+            StringBuilder others = new StringBuilder("xxxxxx");
+            for (int d = 0; d < 6; d++) {
+                text.append(d == a ? 2 : 9).append(0);
+            }
+            his.setCharAt(a, '9');
+            his.setCharAt(b, '1');
+            others.setCharAt(a, '9');
+            RoundAsk x = Laid.at(text + ";k0" + his + ";k0" + others);
+            x.courses(2);
+            due.is("without it 1 gets NOTHING last", -9, x.gets(1, 1));
+            due.is("0 gets last", b, x.gets(0, 1));
+            due.is("by it 1 gets dish " + a + " last", 2, x.spite(1, 0));
+        }
+    }
+
     // "BACK: the first COURSE (from 0 on, through the evenings ..) in which what he gets is WORTH less to him"
     private static void back() {
         for (int n = 2; n <= 7; n++) {
@@ -393,7 +443,16 @@ public final class EdgeEverTest {
                 due.is(kind + " of " + n + " is KIND, and ends it", -9, chain(n, kind).spite(n - 1, 1));
             }
         }
-        due.is("of KIND ones it is never back", -9, Laid.at("d29195;k091;k091").spite(0, 1));
+        RoundAsk x = Laid.at("d29195;k091;k091");
+        for (int courses = 1; courses <= 4; courses++) {
+            x.courses(courses);
+            due.is("of KIND ones it is never back", -9, x.spite(0, 1));
+        }
+        // Of eight courses: dish 0 is there nine times, so that 1 gets it once more in the last ones, and 0 does not.
+        x.courses(8);
+        due.is("in the fifth course 1 gets dish 0 for it", 0, x.gets(1, 4));
+        due.is("0 gets dish 1", 1, x.gets(0, 4));
+        due.is("by it one more is left, and he gets it", -9, x.spite(0, 1));
     }
 
     // "is WORTH less to him than without"

@@ -28,8 +28,12 @@ public final class EdgeTextTest {
         due.end();
     }
 
+    /** A text on a new object, and on one where the least text and the greatest one were taken before. */
     private static void text(int want, String text) {
         due.is("table of " + text, want, Laid.table(new RoundAsk(), text));
+        RoundAsk used = Laid.at(HEAD + ";k012;c9x0");
+        Laid.table(used, ofDishes(6) + ";p99999999".repeat(5));
+        due.is("table on a used object of " + text, want, Laid.table(used, text));
     }
 
     /** A text whose code at a place is another, laid as ints. */

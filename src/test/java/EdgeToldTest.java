@@ -22,10 +22,12 @@ public final class EdgeToldTest {
         bestAllGlad();
         bestPlaces();
         seatsRows();
+        seatsOfGuestNought();
         seatsAims();
         seatsOfNoMemory();
         seatsOfSeveral();
         seatsPlaces();
+        asItIsNow();
         withoutTable();
         due.end();
     }
@@ -314,6 +316,23 @@ public final class EdgeToldTest {
         }
     }
 
+    // "(GUEST 0 in SEAT 0)": though a row with another one there would be better
+    private static void seatsOfGuestNought() {
+        for (int n = 2; n <= 7; n++) {
+            for (int step = 1; step < n; step++) {
+                // Dish 0 is there once, and worth something to 0 alone; only 0 never asks for himself.
+                RoundAsk x = Laid.at("d21090;k09x" + ";k00x".repeat(n - 1));
+                x.step(step);
+                due.is("he who asks first is 0, of " + n, 0, x.seats(0, -1));
+                due.is("seat 0 of " + n, 0, x.seats(0, 0));
+                x.swap(0, step);
+                due.is("as they sit now the first one asks for 0", 90, x.dine());
+                due.is("he who asks first is 0, of " + n, 0, x.seats(0, -1));
+                due.is("seat 0 of " + n, 0, x.seats(0, 0));
+            }
+        }
+    }
+
     // "all GLAD together is the greatest (aim 0), the least of one GUEST is (aim 1)"
     private static void seatsAims() {
         // Dish 0 is there once, and goes to the one in seat 1: 1 would be glad of it by 90, 2 by 50; of
@@ -393,6 +412,34 @@ public final class EdgeToldTest {
                 due.is("q " + bad + " of " + n, -1, x.seats(1, bad));
             }
         }
+    }
+
+    // What is best, and who should sit where, hangs on the table as it is at the call.
+    private static void asItIsNow() {
+        RoundAsk x = Laid.at("d21090;k95x;k05x;k05x");
+        due.is("0 asks for 1", 0, x.best(1));
+        due.is("so all are glad", 95, x.seats(0, -1));
+        x.step(2);
+        due.is("0 asks for 2", 0, x.best(2));
+        due.is("seat 2 is the one 0 asks for", 1, x.seats(0, 1));
+        x.swap(1, 2);
+        due.is("0 asks for 1", 0, x.best(1));
+        x.say(0, 0, 0);
+        due.is("so all are glad still", 95, x.seats(0, -1));
+        x.courses(2);
+        due.is("one dish for two courses", 95, x.seats(0, -1));
+        x = Laid.at("d29191;k091;k091");
+        due.is("by the truth", 180, x.seats(0, -1));
+        due.is("the least by the truth", 90, x.seats(1, -1));
+        x.say(0, 0, 0);
+        due.is("0 says other", 100, x.seats(0, -1));
+        due.is("the least is 0", 10, x.seats(1, -1));
+        x.courses(3);
+        due.is("in three courses", 300, x.seats(0, -1));
+        due.is("the least in three courses", 30, x.seats(1, -1));
+        Laid.table(x, "d29191;k092;k092;k092");
+        due.is("at another table", 270, x.seats(0, -1));
+        due.is("at another table the last one", 0, x.best(2));
     }
 
     // "STATE: there is no TABLE."
