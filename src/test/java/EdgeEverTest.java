@@ -31,7 +31,9 @@ public final class EdgeEverTest {
         fadesNever();
         fadesByDishes();
         fadesByNothing();
+        fadesLate();
         back();
+        backLate();
         backNever();
         backByWorth();
         spiteRefused();
@@ -418,6 +420,48 @@ public final class EdgeEverTest {
             due.is("0 gets last", b, x.gets(0, 1));
             due.is("by it 1 gets dish " + a + " last", 2, x.spite(1, 0));
         }
+    }
+
+    /** A table of seven who each ask for the one in the seat before, and each SAYS so: see text and says. */
+    private static RoundAsk saying(String text, String says) {
+        RoundAsk x = Laid.at(text);
+        String[] signs = says.split(",");
+        for (int g = 0; g < 7; g++) {
+            for (int d = 0; d < signs[g].length(); d++) {
+                if (signs[g].charAt(d) != 'x') {
+                    x.say(g, d, signs[g].charAt(d) - '0');
+                }
+            }
+        }
+        x.step(6);
+        return x;
+    }
+
+    // Among 200 evenings: a table that was searched for long, of which ModelTest's model tells the same
+    private static void fadesLate() {
+        RoundAsk x = saying("d6184611974019;p09xx8x9x;p090x0x29;p06920xx1;p05xx3372;p059xx058;p03x26x4x;p06x37x75",
+            "xx0x6x,7x6x39,533xx1,xx9434,0xx530,x21x9x,x74x07");
+        due.is("tail", 63, x.ever(0));
+        due.is("ring", 1, x.ever(1));
+        due.is("it fades", 63, x.spite(5, 0));
+        due.is("it is not back", -9, x.spite(5, 1));
+        for (int e = 1; e <= 63; e++) {
+            x.dine();
+            due.is("tail after " + e, 63 - e, x.ever(0));
+        }
+    }
+
+    // "of 200 evenings": in the last one of them (searched for long)
+    private static void backLate() {
+        RoundAsk x = saying("d6381532149416;p0600171x;p035625xx;p035x09xx;p062x7xx8;p02129xx1;p0711x958;p09x5x8x9",
+            "52160x,2701xx,2x90xx,0x9xx9,663xx2,68x971,x4x5x9");
+        due.is("in the last evening of 200", 199, x.spite(5, 1));
+        due.is("it does not fade", -9, x.spite(5, 0));
+        // Here it would be back in evening 201 (from 0 on), which is none of them.
+        x = saying("d6242813581510;p0317x233;p0314x50x;p04x6x38x;p06x1390x;p05982x62;p03180xx5;p05x48397",
+            "28x698,19x93x,x3x86x,x2340x,329x40,642xx1,x56158");
+        due.is("in none of 200", -9, x.spite(5, 1));
+        due.is("it does not fade", -9, x.spite(5, 0));
     }
 
     // "BACK: the first COURSE (from 0 on, through the evenings ..) in which what he gets is WORTH less to him"
