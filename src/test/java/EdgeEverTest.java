@@ -457,6 +457,12 @@ public final class EdgeEverTest {
             "52160x,2701xx,2x90xx,0x9xx9,663xx2,68x971,x4x5x9");
         due.is("in the last evening of 200", 199, x.spite(5, 1));
         due.is("it does not fade", -9, x.spite(5, 0));
+        // Evenings, not courses: of two courses each, in the second one of evening 110.
+        x = saying("d6181343533929;p04674146;p02x4xx02;p0305x1x4;p05527x20;p02xx613x;p0837990x;p00x988x4",
+            "278263,x2xx80,30x7x2,438x23,xx393x,77499x,x782x3");
+        x.courses(2);
+        due.is("in a course beyond 200", 221, x.spite(6, 1));
+        due.is("it does not fade", -9, x.spite(6, 0));
         // Here it would be back in evening 201 (from 0 on), which is none of them.
         x = saying("d6242813581510;p0317x233;p0314x50x;p04x6x38x;p06x1390x;p05982x62;p03180xx5;p05x48397",
             "28x698,19x93x,x3x86x,x2340x,329x40,642xx1,x56158");
