@@ -34,6 +34,7 @@ public final class EdgeEverTest {
         fadesLate();
         back();
         backLate();
+        backTooLate();
         backNever();
         backByWorth();
         spiteRefused();
@@ -425,6 +426,12 @@ public final class EdgeEverTest {
     /** A table of seven who each ask for the one in the seat before, and each SAYS so: see text and says. */
     private static RoundAsk saying(String text, String says) {
         RoundAsk x = Laid.at(text);
+        sayAll(x, says);
+        x.step(6);
+        return x;
+    }
+
+    private static void sayAll(RoundAsk x, String says) {
         String[] signs = says.split(",");
         for (int g = 0; g < 7; g++) {
             for (int d = 0; d < signs[g].length(); d++) {
@@ -433,8 +440,6 @@ public final class EdgeEverTest {
                 }
             }
         }
-        x.step(6);
-        return x;
     }
 
     // Among 200 evenings: a table that was searched for long, of which ModelTest's model tells the same
@@ -468,6 +473,20 @@ public final class EdgeEverTest {
             "28x698,19x93x,x3x86x,x2340x,329x40,642xx1,x56158");
         due.is("in none of 200", -9, x.spite(5, 1));
         due.is("it does not fade", -9, x.spite(5, 0));
+    }
+
+    // "of 200 evenings": the first one beyond them is none of them (searched for long)
+    private static void backTooLate() {
+        RoundAsk x = Laid.at("d6331538152211;p079047xx;p07782x4x;p04x709xx;p010xx28x;p06471x72;p0720x768;p07x2xxx8");
+        x.step(5);
+        x.dine();
+        sayAll(x, "7413xx,381x2x,x190xx,3xx69x,792x21,28x832,x2xxx3");
+        x.step(6);
+        // It would be back in evening 200 (from 0 on).
+        due.is("200 evenings are 0 to 199", -9, x.spite(5, 1));
+        due.is("it does not fade", -9, x.spite(5, 0));
+        due.is("tail", 3, x.ever(0));
+        due.is("ring", 10, x.ever(1));
     }
 
     // "BACK: the first COURSE (from 0 on, through the evenings ..) in which what he gets is WORTH less to him"

@@ -9,6 +9,7 @@ public final class EdgeLiesTest {
         lieTheLeast();
         lieFromNow();
         lieOfWhatHeMayHave();
+        lieToACheapOne();
         liesRefused();
         chair();
         chairBySeats();
@@ -110,6 +111,19 @@ public final class EdgeLiesTest {
         x.say(1, 1, 0);
         due.is("but one dish for him", -9, x.lies(1, 0));
         due.is("as it is", 90, x.lies(1, 1));
+    }
+
+    // "A CHEAP one for that of the least PRICE": the 9 of a lie is not worth a PRICE, be it but one more
+    private static void lieToACheapOne() {
+        for (int price = 0; price <= 9; price++) {
+            RoundAsk x = Laid.at("d29" + price + "94;c000;k091");
+            due.is("dish 0 at " + price + ", dish 1 at 4", price <= 4 ? 90 : 10, x.glad(1));
+            due.is("it is at the same or at less, or no lie helps", -9, x.lies(1, 0));
+            due.is("as it is", price <= 4 ? 90 : 10, x.lies(1, 1));
+            x.say(1, 0, 0);
+            due.is("a lie helps at the same alone", price == 4 ? 0 : -9, x.lies(1, 0));
+            due.is("by it, or as it is", price <= 4 ? 90 : 10, x.lies(1, 1));
+        }
     }
 
     // "UNKNOWN; OUTSIDE." of lies

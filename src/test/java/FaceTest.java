@@ -28,6 +28,7 @@ public final class FaceTest {
     public static void main(String[] args) throws IOException {
         methods();
         members();
+        constants();
         classesInside();
         words(Files.readString(FILE));
         lengths(Files.readAllLines(FILE));
@@ -68,6 +69,16 @@ public final class FaceTest {
         }
         holds("constants: " + constants, constants.equals(Set.of("int UNKNOWN", "int OUTSIDE", "int STATE",
             "int FULL", "int NONE", "long LOST")));
+    }
+
+    /** As the document's face tells them, each by itself. */
+    private static void constants() {
+        due.is("UNKNOWN", -1, RoundAsk.UNKNOWN);
+        due.is("OUTSIDE", -2, RoundAsk.OUTSIDE);
+        due.is("STATE", -3, RoundAsk.STATE);
+        due.is("FULL", -4, RoundAsk.FULL);
+        due.is("NONE", -9, RoundAsk.NONE);
+        due.is("LOST", -9223372036854775808L, RoundAsk.LOST);
     }
 
     private static void classesInside() {
